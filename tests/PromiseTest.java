@@ -192,6 +192,8 @@ public final class PromiseTest {
         due("8: AT 2", x.change(0, 1, 2), BEYOND);
         due("8: AT -1", x.change(0, 1, -1), BEYOND);
         due("8: OWNER", x.change(0, 2, 3), 1);
+        due("8: OWNER 0", x.change(0, 2, 0), 3);
+        due("8: OWNER 3", x.change(0, 2, 3), 0);
         due("8: OWNER 4", x.change(0, 2, 4), BEYOND);
         due("8: OWNER -1", x.change(0, 2, -1), BEYOND);
         due("8: what 3", x.change(0, 3, 0), BEYOND);
@@ -258,7 +260,10 @@ public final class PromiseTest {
 
     private static void payments() {
         SnowMoney x = places(0);
-        x.note(0, 5, 0, 2);
+        x.note(37, 1, 0, 2);
+        due("7: BRIDAL's PAYS of 1", x.ofNote(0, 6), 8);
+        x.become(0, 47);
+        due("7: ROYAL's PAYS of 1", x.ofNote(0, 6), 7);
         int[] five = {5, 10, 5, 12, 15, 2, 5};
         int[] four = {4, 8, 0, 11, 13, 0, 4};
         int[] none = {0, 0, 0, 0, 0, 0, 0};
@@ -321,7 +326,7 @@ public final class PromiseTest {
         due("13: <", value("(w<y)+2*(y<w)+4*(w<w)"), 1);
         due("13: =", value("(w=y)+2*(w=3)"), 2);
         due("13: >", value("(w>y)+2*(y>w)+4*(w>w)"), 2);
-        due("13: & of true ones is 1", value("(2&4)+2*(2&0)+4*(0&0)"), 1);
+        due("13: & of true ones is 1", value("(2&4)+2*(2&0)+4*(0&3)+8*(1&1)"), 9);
         due("13: | of true ones is 1", value("(2|4)+2*(0|3)+4*(0|0)"), 3);
         due("13: & ahead of |", value("1|1&0"), 1);
         due("13: < ahead of &", value("2&1<2"), 1);
@@ -421,6 +426,12 @@ public final class PromiseTest {
         due("15: no more", x.hours(1), STATE);
         due("16: no more", x.loose(1), STATE);
         due("16: z stays", x.count(9), 1);
+        SnowMoney y = places(3);
+        for (int i = 0; i < 166; i++) {
+            y.hours(60);
+        }
+        due("16: up to 9999", y.loose(39), 0);
+        due("16: HOUR 9999", y.count(2), 9999);
         x.change(0, 0, 100);
         due("18: HOUR beyond 9999", x.then(2, 0, 0), 96);
     }
@@ -502,6 +513,8 @@ public final class PromiseTest {
         x.note(0, 5, 0, 0);
         due("19: HOURS", x.first(0), 2);
         due("19: NOTE", x.first(1), 3);
+        x.change(3, 0, 4);
+        due("19: behind 1", x.first(0), 1);
         x.change(3, 0, 0);
         due("19: it has SNOW now", x.first(0), 3);
         due("19: the least", x.first(1), 0);
@@ -607,6 +620,17 @@ public final class PromiseTest {
         due("24: place -1", x.way(0, -1, 0), BEYOND);
         due("24: what 2", x.way(0, 3, 2), BEYOND);
         due("24: it lies still", x.ofNote(0, 3), 0);
+        SnowMoney y = places(0, 0, 0, 0, 0, 0);
+        y.note(0, 50, 1, 0);
+        y.road(1, 0, 1);
+        y.road(1, 2, 1);
+        due("24: each PLACE once at most", y.way(0, 2, 1), 2);
+        due("24: to PLACE 0", y.way(0, 0, 1), 0);
+        y.road(1, 2, 0);
+        y.road(0, 2, 1);
+        y.road(2, 5, 1);
+        due("24: next is 0, all along the way", y.way(0, 5, 1), 0);
+        due("24: nothing melts", y.way(0, 5, 0), 50);
     }
 
     private static void forging() {
@@ -682,6 +706,9 @@ public final class PromiseTest {
         due("28: seven of ten, below", x.odds(1, 18, 1), 10);
         due("28: lowest terms", x.odds(1, 15, 0), 4);
         due("28: lowest terms, below", x.odds(1, 15, 1), 5);
+        x.change(1, 0, 91);
+        due("28: one SNOW left", x.odds(1, 15, 0), 9);
+        due("28: one SNOW left, below", x.odds(1, 15, 1), 10);
         due("28: WEATHER stays", x.count(3), 2);
         due("28: note 2", x.odds(2, 0, 0), BEYOND);
         due("28: n 61", x.odds(0, 61, 0), BEYOND);
@@ -764,6 +791,9 @@ public final class PromiseTest {
         due("32: judged", x.judge(0), -1);
         x.sheet(0, 32, 1);
         due("32: all 0", x.judge(0), 0);
+        x.change(0, 0, 0);
+        due("32: all 0, judged", x.judge(0), -1);
+        x.change(0, 0, 9);
         put(x, 0, 8, 256 + 9);
         due("33: 8 lowest bits", x.judge(0), -1);
         put(x, 0, 16, 65536 + 9);
