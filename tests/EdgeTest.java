@@ -92,6 +92,7 @@ public final class EdgeTest {
         payLeast();
         payFull();
         byPlace();
+        unlikeNames();
         tenOfEightBits();
         lasts();
         way();
@@ -107,6 +108,8 @@ public final class EdgeTest {
         snows();
         judge();
         images();
+        imageOfRoads();
+        imageOfFullTexts();
         imageAndTexts();
         tellAndCheck();
         imageAndWaiting();
@@ -433,6 +436,15 @@ public final class EdgeTest {
         due("13: closed within, but for three, and three", fault(0, "((((1)+(((1"), 9);
         due("13: five open and the end", fault(0, "((((("), 5);
         due("13: six open at the end", fault(0, "(((((("), 5);
+        for (String sign : new String[] {"+", "-", "*", "/", "%", "<", "=", ">", "&", "|"}) {
+            due("13: five ( behind " + sign, fault(0, "1" + sign + "(((((1)))))"), GOOD);
+            due("13: six ( behind " + sign, fault(0, "1" + sign + "((((((1))))))"), 7);
+            due("13: five ( ahead of " + sign, fault(0, "(((((1)))))" + sign + "1"), GOOD);
+            due("13: four ( and five behind " + sign, fault(0, "((((1" + sign + "!1))))"), GOOD);
+            due("13: four ( and six behind " + sign, fault(0, "((((1" + sign + "!!1))))"), 7);
+            due("13: five ! behind " + sign, fault(0, "1" + sign + "!!!!!1"), GOOD);
+            due("13: six ! behind " + sign, fault(0, "1" + sign + "!!!!!!1"), 7);
+        }
         due("13: five ! and the end", fault(0, "!!!!!"), 5);
     }
 
@@ -578,8 +590,20 @@ public final class EdgeTest {
         due("14: b is m", x.law(1, 0, 1, 0), 1);
         text(x, 1, "o");
         due("14: c is o", x.law(1, 0, 0, 1), 1);
+        due("14: c 0 is o", x.law(1, 1, 1, 0), 0);
         text(x, 1, "m");
         due("14: c is not m", x.law(1, 1, 0, 1), 0);
+        text(x, 0, "(w=50)*40+(y=60)*20+(h=70)*9");
+        text(x, 1, "(s=50)&(m=60)&(o=70)");
+        for (int more = -1; more <= 1; more++) {
+            int is = more == 0 ? 1 : 0;
+            due("14: w as told, " + more, x.law(0, 50 + more, 60, 70), 29 + 40 * is);
+            due("14: y as told, " + more, x.law(0, 50, 60 + more, 70), 49 + 20 * is);
+            due("14: h as told, " + more, x.law(0, 50, 60, 70 + more), 60 + 9 * is);
+            due("14: s as told, " + more, x.law(1, 50 + more, 60, 70), is);
+            due("14: m as told, " + more, x.law(1, 50, 60 + more, 70), is);
+            due("14: o as told, " + more, x.law(1, 50, 60, 70 + more), is);
+        }
     }
 
     // ---- 15 to 17: hours, carrying
@@ -896,6 +920,40 @@ public final class EdgeTest {
         due("15: each by its PLACE", x.hours(1), 414);
         due("38: WEATHER is the IMAGE's", x.restore() + x.count(3), 2);
         due("18: by it", x.then(5, 0, 0), 100 - 40);
+    }
+
+    /** WARMTH and WEATHER are not alike for HEAT: 22 AT PLACE 0, 12 AT PLACE 1. */
+    private static void unlikeNames() {
+        SnowMoney x = places(3, 1);
+        x.road(0, 1, 2);
+        x.weather(7);
+        x.note(0, 100, 0, 0);
+        x.note(0, 100, 1, 1);
+        text(x, 0, "w*5+y");
+        due("7: WARMTH 3, WEATHER 7", x.ofNote(0, 5), 22);
+        due("7: WARMTH 1, WEATHER 7", x.ofNote(1, 5), 12);
+        due("18: WARMTH 3, WEATHER 7", x.then(2, 0, 0), 56);
+        due("18: WARMTH 1, WEATHER 7", x.then(2, 1, 1), 76);
+        due("19: WARMTH 3, WEATHER 7", x.first(0), 5);
+        due("21: the colder PLACE", x.keep(0, 2, 0), 1);
+        due("21: WARMTH 1, WEATHER 7", x.keep(0, 2, 1), 76);
+        due("23: WARMTH 3, WEATHER 7", x.lasts(0, 50), 2);
+        due("23: WARMTH 1, WEATHER 7", x.lasts(1, 50), 4);
+        due("24: WARMTH 3, WEATHER 7", x.way(0, 1, 0), 56);
+        put(x, 0, 16, 78, 88, 1);
+        due("25: WARMTH 3 and 1, WEATHER 7", x.forgers(0, 0), 2);
+        due("26: the OWNER of the colder one", x.richest(1, 0), 1);
+        due("26: WARMTH 1, WEATHER 7", x.richest(1, 1), 88);
+        due("27: WARMTH 3 and 1, WEATHER 7", x.warmer(0, 1), 166);
+        due("27: WARMTH 4 and 2, WEATHER 7", x.warmer(1, 1), 73 + 83);
+        due("28: WARMTH 3, WEATHER 0 to 4 of all, above", x.odds(0, 5, 0), 1);
+        due("28: WARMTH 3, WEATHER 0 to 4 of all, below", x.odds(0, 5, 1), 2);
+        x.tell(166);
+        x.tell(132);
+        due("40: WARMTH 3 and 1, WEATHER 7", x.check(), 0);
+        due("15: WARMTH 3 and 1, WEATHER 7", x.hours(1), 166);
+        due("17: WARMTH 3, WEATHER 7", x.carry(0, 1), 78 - 44);
+        due("17: WARMTH 1, WEATHER 7", x.carry(0, 0), 34 - 24);
     }
 
     /** More NOTES than a SHEET has bits. */
@@ -1475,6 +1533,69 @@ public final class EdgeTest {
         for (int what = 0; what <= 9; what++) {
             due("38: a full one, count(" + what + ")", x.count(what), full[what]);
         }
+    }
+
+    /** Six PLACES with a WARMTH each, and all ROADS between them. */
+    private static void imageOfRoads() {
+        SnowMoney x = places(9, 8, 7, 6, 5, 4);
+        x.note(0, 999, 0, 0);
+        text(x, 0, "1");
+        for (int p = 0; p < 6; p++) {
+            for (int q = 0; q < p; q++) {
+                x.road(p, q, 1 + (3 * p + q) % 9);
+            }
+        }
+        x.image();
+        for (int p = 0; p < 6; p++) {
+            x.warm(p, 0);
+            for (int q = 0; q < p; q++) {
+                x.road(p, q, p % 2 * 9);
+            }
+        }
+        x.restore();
+        for (int p = 0; p < 6; p++) {
+            due("38: WARMTH of PLACE " + p, x.ofPlace(p, 0), 9 - p);
+            for (int q = 0; q < p; q++) {
+                int h = 1 + (3 * p + q) % 9;
+                x.change(0, 0, 999);
+                x.change(0, 1, q);
+                due("38: ROAD " + q + " to " + p, x.carry(0, p), 999 - h);
+                due("38: ROAD " + p + " to " + q, x.carry(0, q), 999 - 2 * h);
+            }
+        }
+        x.restore();
+        for (int p = 0; p < 6; p++) {
+            for (int q = 0; q < p; q++) {
+                due("38: ROAD between " + p + " and " + q, x.road(q, p, 0), 1 + (3 * p + q) % 9);
+            }
+        }
+    }
+
+    /** TEXTS of both USES and THE TAPE, of 50 bytes each: all of them is kept, the last byte too. */
+    private static void imageOfFullTexts() {
+        String[] full = {"w" + "+1".repeat(22) + "+10+y", "!s" + "+0".repeat(23) + "+m", "!h" + "+2".repeat(23) + "+w"};
+        SnowMoney x = new SnowMoney();
+        due("13: 50 bytes of HEAT", text(x, 0, full[0]), 1);
+        due("13: 50 bytes of FOUND", text(x, 1, full[1]), 1);
+        for (int i = 0; i < 50; i++) {
+            x.feed(full[2].charAt(i), 1);
+        }
+        x.image();
+        x.text(0);
+        text(x, 1, "0" + "+o".repeat(24));
+        for (int i = 0; i < 50; i++) {
+            x.feed('?', 1);
+        }
+        x.restore();
+        due("38: HEAT of 50 bytes", x.law(0, 2, 30, 0), 2 + 32 + 30);
+        due("38: FOUND of 50 bytes, its last byte", x.law(1, 1, 1, 0), 1);
+        due("38: FOUND of 50 bytes, 0", x.law(1, 1, 0, 1), 0);
+        due("38: FOUND of 50 bytes, its first byte", x.law(1, 0, 0, 0), 1);
+        due("38: THE TAPE of 50 bytes", x.text(0), 1);
+        due("38: THE TAPE of 50 bytes, worked out", x.law(0, 20, 0, 0), 1 + 46 + 20);
+        due("38: THE TAPE of 50 bytes, its first NAME", x.law(0, 20, 0, 5), 46 + 20);
+        x.restore();
+        due("38: HEAT of 50 bytes again", x.law(0, 2, 30, 0), 2 + 32 + 30);
     }
 
     /** TEXTS and THE TAPE are kept, and what waits; SHEETS, THE TRACE and what is told are not. */
